@@ -22,7 +22,6 @@ public final class SweptDownhill {
     private final Course trial;
     private final Search search;
     private final Sheet[] sheets;
-    private boolean settled;
     private int finding;
 
     public SweptDownhill() {
@@ -36,7 +35,6 @@ public final class SweptDownhill {
         for (int s = 0; s < SHEETS; s++) {
             sheets[s] = new Sheet();
         }
-        settled = false;
         finding = 0;
     }
 
@@ -48,8 +46,7 @@ public final class SweptDownhill {
         }
         int size = town.textOf(text).append(b);
         town.survey();
-        settled = false;
-        return size;
+        return settled(size);
     }
 
     public int wipe(int text) {
@@ -58,8 +55,7 @@ public final class SweptDownhill {
         }
         int size = town.textOf(text).empty();
         town.survey();
-        settled = false;
-        return size;
+        return settled(size);
     }
 
     public int fault(int text) {
@@ -81,8 +77,7 @@ public final class SweptDownhill {
     }
 
     public int set(int what, int k, int v) {
-        settled = false;
-        return law.change(what, k, v);
+        return settled(law.change(what, k, v));
     }
 
     public int read(int s) {
@@ -93,8 +88,7 @@ public final class SweptDownhill {
         if (sheet.isLost()) {
             return found(NULL);
         }
-        settled = false;
-        return law.readHolds(sheet);
+        return settled(law.readHolds(sheet));
     }
 
     // ---- what comes
@@ -103,24 +97,21 @@ public final class SweptDownhill {
         if (!isBelow(minute, MINUTES) || !isBelow(door, DOORS) || !isBelow(kind, KINDS) || n < 1 || n > 9) {
             return BAD;
         }
-        settled = false;
-        return told.falls.append(minute, door, kind, n);
+        return settled(told.falls.append(minute, door, kind, n));
     }
 
     public int sweep(int minute, int street) {
         if (!isBelow(minute, MINUTES) || !isBelow(street, STREETS)) {
             return BAD;
         }
-        settled = false;
-        return told.sweeps.append(minute, street, 0, 0);
+        return settled(told.sweeps.append(minute, street, 0, 0));
     }
 
     public int cart(int minute, int door) {
         if (!isBelow(minute, MINUTES) || !isBelow(door, DOORS)) {
             return BAD;
         }
-        settled = false;
-        return told.carts.append(minute, door, 0, 0);
+        return settled(told.carts.append(minute, door, 0, 0));
     }
 
     public int rain(int minute, int v) {
@@ -129,16 +120,14 @@ public final class SweptDownhill {
         }
         int was = told.rains[minute];
         told.rains[minute] = v;
-        settled = false;
-        return was;
+        return settled(was);
     }
 
     public int undo(int what) {
         if (!isBelow(what, 3)) {
             return BAD;
         }
-        settled = false;
-        return told.actsOf(what).dropLast();
+        return settled(told.actsOf(what).dropLast());
     }
 
     // ---- what lies
@@ -147,19 +136,18 @@ public final class SweptDownhill {
         if (!town.hasDoor(door) || !isToNine(minute) || kind < NONE || kind >= KINDS) {
             return BAD;
         }
-        return behind(minute).heaps.barrowsAt(door, kind);
+        Heaps heaps = behind(minute).heaps;
+        return kind == NONE ? heaps.allBarrowsAt(door) : heaps.barrowsAt(door, kind);
     }
 
     public int fine(int door) {
         if (door == NONE) {
-            settle();
             return course.finesTogether();
         }
-        return town.hasDoor(door) ? settledFine(door) : BAD;
+        return town.hasDoor(door) ? course.fineAt(door) : BAD;
     }
 
     public int judged() {
-        settle();
         return course.against;
     }
 
@@ -168,7 +156,8 @@ public final class SweptDownhill {
             return BAD;
         }
         trial.supposeAsTold();
-        trial.runAheadOfCarts(law.nine);
+        trial.supposeNoCartsIn(law.nine);
+        trial.run(law.nine);
         search.begin(trial);
         search.seek(k);
         return i == NONE ? search.leastFines : search.bestStreet(i);
@@ -196,7 +185,7 @@ public final class SweptDownhill {
             return BAD;
         }
         int upper = town.uppers[street];
-        int fine = settledFine(upper);
+        int fine = course.fineAt(upper);
         int moreBelow = fine * law.prides[town.lowers[street]];
         int lessAbove = fine * law.prides[upper];
         if (what == 2) {
@@ -245,7 +234,6 @@ public final class SweptDownhill {
         if (!isToNine(minute) || !isBelow(kind, KINDS) || !town.hasDoor(door)) {
             return BAD;
         }
-        settle();
         int oneMore = course.heaps.barrowsAt(door, kind) + 1;
         int bits = 0;
         for (int yard = 0; yard < town.doors; yard++) {
@@ -263,7 +251,6 @@ public final class SweptDownhill {
         if (!town.hasDoor(door) || !isBelow(kind, KINDS)) {
             return BAD;
         }
-        settle();
         return course.heaps.yardsAt(door, kind);
     }
 
@@ -272,7 +259,7 @@ public final class SweptDownhill {
         int most = NONE;
         // A CART in NINE comes behind all else, so it takes just the FINE of its DOOR.
         for (int door = 0; door < town.doors; door++) {
-            int fine = settledFine(door);
+            int fine = course.fineAt(door);
             if (fine > most) {
                 most = fine;
                 best = door;
@@ -315,7 +302,7 @@ public final class SweptDownhill {
         if (why != 0) {
             return found(why);
         }
-        sheets[s].write(i, v);
+        sheets[s].store(i, v);
         return 1;
     }
 
@@ -361,7 +348,7 @@ public final class SweptDownhill {
         Heaps heaps = behind(minute).heaps;
         int many = Math.min(sheet.size, town.doors);
         for (int door = 0; door < many; door++) {
-            sheet.write(door, heaps.barrowsAt(door, NONE));
+            sheet.store(door, heaps.allBarrowsAt(door));
         }
         return many;
     }
@@ -389,35 +376,23 @@ public final class SweptDownhill {
         h = 31 * h + fault(0);
         h = 31 * h + fault(1);
         for (int door = 0; door < town.doors; door++) {
-            h = digestDoor(h, door);
+            h = 31 * h + height(door);
+            h = 31 * h + fine(door);
+            h = 31 * h + nets(door, 0);
+            h = 31 * h + nets(door, 1);
+            for (int kind = 0; kind < KINDS; kind++) {
+                h = 31 * h + origin(door, kind);
+            }
+            h = 31 * h + lies(door, 0, NONE);
         }
         for (int street = 0; street < town.streets; street++) {
-            h = digestStreet(h, street);
+            h = 31 * h + street(street, 0);
+            h = 31 * h + street(street, 1);
+            for (int what = 0; what <= 2; what++) {
+                h = 31 * h + bribe(street, what);
+            }
         }
-        return digestWhole(h);
-    }
-
-    private long digestDoor(long before, int door) {
-        long h = 31 * before + height(door);
-        h = 31 * h + fine(door);
-        h = 31 * h + nets(door, 0);
-        h = 31 * h + nets(door, 1);
-        for (int kind = 0; kind < KINDS; kind++) {
-            h = 31 * h + origin(door, kind);
-        }
-        return 31 * h + lies(door, 0, NONE);
-    }
-
-    private long digestStreet(long before, int street) {
-        long h = 31 * before + street(street, 0);
-        h = 31 * h + street(street, 1);
-        h = 31 * h + bribe(street, 0);
-        h = 31 * h + bribe(street, 1);
-        return 31 * h + bribe(street, 2);
-    }
-
-    private long digestWhole(long before) {
-        long h = 31 * before + fine(NONE);
+        h = 31 * h + fine(NONE);
         h = 31 * h + judged();
         h = 31 * h + least(1, NONE);
         h = 31 * h + least(1, 0);
@@ -444,25 +419,16 @@ public final class SweptDownhill {
         return -10 - number;
     }
 
-    /** Runs the minutes as told, once for all questions between two changes. */
-    private void settle() {
-        if (settled) {
-            return;
-        }
+    /** Goes through the minutes anew, as every change does, so that all questions find what lies behind NINE. */
+    private int settled(int answer) {
         course.supposeAsTold();
         course.run(law.nine);
-        settled = true;
-    }
-
-    private int settledFine(int door) {
-        settle();
-        return course.fineAt(door);
+        return answer;
     }
 
     /** The course as told, run so far that it holds what lies behind a minute. */
     private Course behind(int minute) {
         if (minute >= law.nine) {
-            settle();
             return course;
         }
         trial.supposeAsTold();
@@ -472,15 +438,15 @@ public final class SweptDownhill {
 
     /** Sixteen times the mean of FINES together, when only the first so many SWEEPS are told. */
     private int sixteenthsOfMean(int sixteenths, int sweeps) {
-        return sixteenths * finesIfRain(1, sweeps) + (SIXTEENTHS - sixteenths) * finesIfRain(0, sweeps);
-    }
-
-    private int finesIfRain(int rainInNine, int sweeps) {
-        trial.supposeAsTold();
-        trial.supposeRainInNine(rainInNine);
-        trial.supposeSweeps(sweeps);
-        trial.run(law.nine);
-        return trial.finesTogether();
+        int sum = 0;
+        for (int rain = 0; rain <= 1; rain++) {
+            trial.supposeAsTold();
+            trial.supposeRainInNine(rain);
+            trial.supposeSweeps(sweeps);
+            trial.run(law.nine);
+            sum += trial.finesTogether() * (rain == 1 ? sixteenths : SIXTEENTHS - sixteenths);
+        }
+        return sum;
     }
 
     /** The bytes of a text. */
@@ -784,52 +750,55 @@ public final class SweptDownhill {
         final int[] yards = new int[DOORS * KINDS];
 
         void clear() {
-            for (int door = 0; door < DOORS; door++) {
-                clearDoor(door);
-            }
-        }
-
-        void clearDoor(int door) {
-            for (int kind = 0; kind < KINDS; kind++) {
-                int heap = heapOf(door, kind);
+            for (int heap = 0; heap < barrows.length && heap < yards.length; heap++) {
                 barrows[heap] = 0;
                 yards[heap] = 0;
             }
         }
 
+        void clearDoor(int door) {
+            for (int kind = 0; kind < KINDS && isBelow(door, DOORS); kind++) {
+                barrows[door * KINDS + kind] = 0;
+                yards[door * KINDS + kind] = 0;
+            }
+        }
+
         void drop(int door, int kind, int n) {
-            int heap = heapOf(door, kind);
-            barrows[heap] += n;
-            yards[heap] |= 1 << door;
+            if (!isBelow(door, DOORS) || !isBelow(kind, KINDS)) {
+                return;
+            }
+            barrows[door * KINDS + kind] += n;
+            yards[door * KINDS + kind] |= 1 << door;
         }
 
         void slide(int upper, int lower) {
+            if (!isBelow(upper, DOORS) || !isBelow(lower, DOORS) || upper == lower) {
+                return;
+            }
             for (int kind = 0; kind < KINDS; kind++) {
-                int from = heapOf(upper, kind);
-                int to = heapOf(lower, kind);
+                int from = upper * KINDS + kind;
+                int to = lower * KINDS + kind;
                 barrows[to] += barrows[from];
                 yards[to] |= yards[from];
+                barrows[from] = 0;
+                yards[from] = 0;
             }
-            clearDoor(upper);
         }
 
         int barrowsAt(int door, int kind) {
-            if (kind != NONE) {
-                return barrows[heapOf(door, kind)];
-            }
+            return isBelow(door, DOORS) && isBelow(kind, KINDS) ? barrows[door * KINDS + kind] : 0;
+        }
+
+        int allBarrowsAt(int door) {
             int sum = 0;
-            for (int each = 0; each < KINDS; each++) {
-                sum += barrows[heapOf(door, each)];
+            for (int kind = 0; kind < KINDS && isBelow(door, DOORS); kind++) {
+                sum += barrows[door * KINDS + kind];
             }
             return sum;
         }
 
         int yardsAt(int door, int kind) {
-            return yards[heapOf(door, kind)];
-        }
-
-        private static int heapOf(int door, int kind) {
-            return isBelow(door, DOORS) && isBelow(kind, KINDS) ? door * KINDS + kind : 0;
+            return isBelow(door, DOORS) && isBelow(kind, KINDS) ? yards[door * KINDS + kind] : 0;
         }
     }
 
@@ -842,6 +811,7 @@ public final class SweptDownhill {
         int against = NONE;
         int rainInNine = NONE;
         int sweeps = 0;
+        int uncarted = NONE;
         int moreMinute = NONE;
         int moreDoor = NONE;
         int moreKind = NONE;
@@ -855,6 +825,7 @@ public final class SweptDownhill {
         void supposeAsTold() {
             rainInNine = NONE;
             sweeps = told.sweeps.size;
+            uncarted = NONE;
             moreMinute = NONE;
         }
 
@@ -866,6 +837,10 @@ public final class SweptDownhill {
             sweeps = Math.min(many, told.sweeps.size);
         }
 
+        void supposeNoCartsIn(int minute) {
+            uncarted = minute;
+        }
+
         void supposeBarrow(int minute, int door, int kind) {
             moreMinute = minute;
             moreDoor = door;
@@ -873,20 +848,17 @@ public final class SweptDownhill {
         }
 
         void run(int last) {
-            runAheadOfCarts(last);
-            takeCarts(last);
-        }
-
-        void runAheadOfCarts(int last) {
             heaps.clear();
             against = NONE;
             for (int minute = 0; minute <= last && minute < MINUTES; minute++) {
-                takeCarts(minute - 1);
                 takeFalls(minute);
                 if (rainsIn(minute)) {
                     washDown();
                 }
                 takeSweeps(minute);
+                if (minute != uncarted) {
+                    takeCarts(minute);
+                }
             }
         }
 
@@ -921,23 +893,24 @@ public final class SweptDownhill {
 
         private void takeSweeps(int minute) {
             for (int i = 0; i < sweeps; i++) {
-                if (told.sweeps.minutes[i] == minute) {
-                    takeSweep(i);
+                if (told.sweeps.minutes[i] == minute && !sweepsDown(told.sweeps.places[i]) && against == NONE) {
+                    against = i;
                 }
             }
         }
 
-        private void takeSweep(int i) {
-            int street = told.sweeps.places[i];
-            if (town.hasStreet(street) && holdsBoth(town.uppers[street], town.lowers[street])) {
-                heaps.slide(town.uppers[street], town.lowers[street]);
-            } else if (against == NONE) {
-                against = i;
+        /** Sweeps down a STREET if the LAW lets it: whether it does. */
+        private boolean sweepsDown(int street) {
+            if (!town.hasStreet(street)) {
+                return false;
             }
-        }
-
-        private boolean holdsBoth(int upper, int lower) {
-            return heaps.barrowsAt(upper, NONE) + heaps.barrowsAt(lower, NONE) <= law.holds[lower];
+            int upper = town.uppers[street];
+            int lower = town.lowers[street];
+            if (heaps.allBarrowsAt(upper) + heaps.allBarrowsAt(lower) > law.holds[lower]) {
+                return false;
+            }
+            heaps.slide(upper, lower);
+            return true;
         }
 
         private void takeCarts(int minute) {
@@ -997,7 +970,7 @@ public final class SweptDownhill {
         void begin(Course aheadOfCarts) {
             fines = 0;
             for (int door = 0; door < town.doors; door++) {
-                barrows[door] = aheadOfCarts.heaps.barrowsAt(door, NONE);
+                barrows[door] = aheadOfCarts.heaps.allBarrowsAt(door);
                 worths[door] = aheadOfCarts.fineAt(door);
                 carted[door] = aheadOfCarts.hasCart(door, law.nine);
                 fines += carted[door] ? 0 : worths[door];
@@ -1095,7 +1068,7 @@ public final class SweptDownhill {
             return isBelow(i, size) ? items[i] : 0;
         }
 
-        void write(int i, int v) {
+        void store(int i, int v) {
             if (isBelow(i, size)) {
                 items[i] = narrowed(v);
             }
