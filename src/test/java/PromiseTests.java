@@ -342,6 +342,13 @@ public final class PromiseTests {
         rowIs("ahead of it", "4 0 0 0", allLies(x, 1));
         rowIs("behind it", "0 0 0 0", allLies(x, 2));
         rowIs("a FALL of its minute", "0 0 0 0", allLies(x, 8));
+        SweptDownhill first = ladder();
+        first.fall(0, 2, 0, 4);
+        first.cart(0, 2);
+        is("in the first minute", 0, first.lies(2, 0, NONE));
+        is("and for ODDS", 0, first.odds(0, 0));
+        is("and behind a LEAST", first.fine(NONE), first.least(0, NONE));
+        is("and for a minute between", 0, first.lies(2, 9, NONE));
     }
 
     private static void rain() {
@@ -577,6 +584,8 @@ public final class PromiseTests {
         cutIs("95", "01;01;01;01;01;01;01;01;01;01;01;01", 0, 1, 12, 4095);
         cutIs("95", "", 0, 1, 0, 0);
         cutIs("7531", "01;12;23", 0, 3, 1, 1);
+        cutIs("950", "01;01;01;12", 0, 1, 3, 7);
+        cutIs("950", "12;01;01;01", 0, 1, 3, 14);
         SweptDownhill x = town("95520", "01;02;13;23;34");
         int[][] bad = {{0, 0, 0}, {-1, 0, 0}, {5, 0, 0}, {0, -1, 0}, {0, 5, 1}, {0, 1, -1}, {0, 1, 2}};
         for (int[] b : bad) {
@@ -762,8 +771,10 @@ public final class PromiseTests {
         is("ints of none", 0, x.sheet(3, 2, 0));
         rowIs("0 at first", "0 0 0", row(i -> (long) x.get(0, 0, i), 3));
         x.put(0, 0, 47, 5);
+        x.put(0, 0, 0, 5);
         is("anew", 48, x.sheet(0, 2, 48));
         is("0 again", 0, x.get(0, 2, 47));
+        is("0 again, too", 0, x.get(0, 2, 0));
         is("of its new FORM", LEAST_INT, x.get(0, 0, 47));
         refused(x, "SIZE", SIZE, i -> (long) x.sheet(0, 0, -1));
         is("FINDING", 5, x.count(8));
@@ -860,6 +871,7 @@ public final class PromiseTests {
         is("onto itself, down", 1, x.copy(0, 1, 0, 0, 4));
         rowIs("as they were, too", "1 2 3 4 4", row(i -> (long) x.get(0, 1, i), 5));
         is("none, at the ends", 1, x.copy(0, 5, 1, 3, 0));
+        is("a whole row", 1, x.copy(0, 0, 0, 0, 5));
         int[][] index = {{6, 0, 0}, {0, 4, 0}, {-1, 0, 1}, {0, -1, 1}, {0, 0, -1}, {0, 0, 4}, {3, 0, 3}, {0, 1, 3},
             {0, 0, Integer.MAX_VALUE}, {Integer.MAX_VALUE, 0, 1}, {0, Integer.MAX_VALUE, 1}, {LEAST_INT, 0, 1},
             {-1, 0, 0}, {0, -1, 0}};
@@ -969,6 +981,9 @@ public final class PromiseTests {
         SweptDownhill one = town("7", "");
         is("one DOOR", fold(17, 1, 0, 1, 0, 0, 0, 0, 59, -1, -1, 7, 0, 0, 0, 0, 0, 0, 0, 0, 0,
             0, -1, 0, -1, 0, -2, -2, 0, 0, 1, 1, 0), one.digest());
+        is("FAULTS", fold(17, 0, 0, 2, 1, 0, 0, 0, 59, 1, 0, 0, -1, 0, -1, 0, -2, -2, 0, 0, 1, -2, -1),
+            town("7x", "0").digest());
+        digestOfTown();
         SweptDownhill x = town("95520", "01;02;13;23;34");
         x.set(3, 0, 9);
         x.set(2, 3, 6);
@@ -987,5 +1002,27 @@ public final class PromiseTests {
         long before = x.digest();
         x.lose(0);
         is("a FINDING is not in it", before, x.digest());
+    }
+
+    /** A town small enough that all its answers are found by hand. */
+    private static void digestOfTown() {
+        SweptDownhill x = town("9630", "12;01;23;02");
+        x.set(3, 0, 2);
+        x.set(2, 1, 3);
+        x.fall(0, 0, 1, 2);
+        x.fall(1, 1, 3, 1);
+        x.fall(2, 3, 4, 1);
+        x.fall(2, 2, 0, 3);
+        x.sweep(1, 5);
+        x.cart(2, 3);
+        long h = fold(17, 4, 4, 4, 11, 4, 1, 1, 2, -1, -1);
+        h = fold(h, 9, 4, 0, 14, 0, 1, 0, 0, 0, 2);
+        h = fold(h, 6, 4, 1, 12, 0, 0, 0, 2, 0, 0);
+        h = fold(h, 3, 3, 3, 8, 4, 0, 0, 0, 0, 0);
+        h = fold(h, 0, 0, 7, 0, 0, 0, 0, 0, 0, 0);
+        h = fold(h, 1, 2, 4, 12, 0, 0, 1, 12, 4, 8);
+        h = fold(h, 2, 3, 3, 3, 0, 0, 2, 4, 4, 0);
+        h = fold(h, 11, 0, 8, 2, 4, 1, 2, 13, 33, 4, 1, 0);
+        is("a town", h, x.digest());
     }
 }
