@@ -948,60 +948,62 @@ public final class PromiseTests {
         rowIs("with another FAULT", "0 0 4 6", row(i -> (long) x.count(i), 4));
     }
 
-    private static long fold(long h, long... values) {
-        for (long value : values) {
-            h = 31 * h + value;
-        }
-        return h;
-    }
-
     /** The digest by its words, from the other calls. */
     private static long folded(SweptDownhill x) {
         long h = 17;
         for (int i = 0; i <= 7; i++) {
-            h = fold(h, x.count(i));
+            h = Probe.fold(h, x.count(i));
         }
-        h = fold(h, x.fault(0), x.fault(1));
+        h = Probe.fold(h, x.fault(0), x.fault(1));
         for (int d = 0; d < x.count(0); d++) {
-            h = fold(h, x.height(d), x.fine(d), x.nets(d, 0), x.nets(d, 1));
-            h = fold(h, x.origin(d, 0), x.origin(d, 1), x.origin(d, 2), x.origin(d, 3), x.origin(d, 4));
-            h = fold(h, x.lies(d, 0, NONE));
+            h = Probe.fold(h, x.height(d), x.fine(d), x.nets(d, 0), x.nets(d, 1));
+            h = Probe.fold(h, x.origin(d, 0), x.origin(d, 1), x.origin(d, 2), x.origin(d, 3), x.origin(d, 4));
+            h = Probe.fold(h, x.lies(d, 0, NONE));
         }
         for (int s = 0; s < x.count(1); s++) {
-            h = fold(h, x.street(s, 0), x.street(s, 1), x.bribe(s, 0), x.bribe(s, 1), x.bribe(s, 2));
+            h = Probe.fold(h, x.street(s, 0), x.street(s, 1), x.bribe(s, 0), x.bribe(s, 1), x.bribe(s, 2));
         }
-        h = fold(h, x.fine(NONE), x.judged(), x.least(1, NONE), x.least(1, 0), x.least(2, NONE));
-        h = fold(h, x.cut(0, 1, 0), x.cut(0, 1, 1), x.rests(), x.odds(4, 0), x.odds(4, 1));
-        return fold(h, x.who(0, 0, 0), x.best());
+        h = Probe.fold(h, x.fine(NONE), x.judged(), x.least(1, NONE), x.least(1, 0), x.least(2, NONE));
+        h = Probe.fold(h, x.cut(0, 1, 0), x.cut(0, 1, 1), x.rests(), x.odds(4, 0), x.odds(4, 1));
+        return Probe.fold(h, x.who(0, 0, 0), x.best());
     }
 
     private static void digest() {
-        is("a new object", fold(17, 0, 0, 0, 0, 0, 0, 0, 59, -1, -1, 0, -1, 0, -1, 0, -2, -2, 0, 0, 1, -2, -1),
+        is("a new object", Probe.fold(17, 0, 0, 0, 0, 0, 0, 0, 59, -1, -1, 0, -1, 0, -1, 0, -2, -2, 0, 0, 1, -2, -1),
             new SweptDownhill().digest());
         SweptDownhill one = town("7", "");
-        is("one DOOR", fold(17, 1, 0, 1, 0, 0, 0, 0, 59, -1, -1, 7, 0, 0, 0, 0, 0, 0, 0, 0, 0,
+        is("one DOOR", Probe.fold(17, 1, 0, 1, 0, 0, 0, 0, 59, -1, -1, 7, 0, 0, 0, 0, 0, 0, 0, 0, 0,
             0, -1, 0, -1, 0, -2, -2, 0, 0, 1, 1, 0), one.digest());
-        is("FAULTS", fold(17, 0, 0, 2, 1, 0, 0, 0, 59, 1, 0, 0, -1, 0, -1, 0, -2, -2, 0, 0, 1, -2, -1),
+        is("FAULTS", Probe.fold(17, 0, 0, 2, 1, 0, 0, 0, 59, 1, 0, 0, -1, 0, -1, 0, -2, -2, 0, 0, 1, -2, -1),
             town("7x", "0").digest());
         digestOfTown();
+        for (int steps = 0; steps <= 14; steps++) {
+            SweptDownhill x = townAfter(steps);
+            is("folded after " + steps, folded(x), x.digest());
+        }
+        SweptDownhill x = townAfter(14);
+        long before = x.digest();
+        x.lose(0);
+        is("a FINDING is not in it", before, x.digest());
+    }
+
+    /** A new object each time, as an object answers 512 calls and no more. */
+    private static SweptDownhill townAfter(int steps) {
         SweptDownhill x = town("95520", "01;02;13;23;34");
         x.set(3, 0, 9);
         x.set(2, 3, 6);
         x.set(1, 3, 7);
-        for (int i = 0; i < 12; i++) {
+        for (int i = 0; i < steps && i < 12; i++) {
             x.fall(i, (i * 3) % 5, i % 5, i % 9 + 1);
             x.sweep(i, i % 6);
-            is("folded", folded(x), x.digest());
         }
-        x.cart(9, 4);
-        x.cart(9, 1);
-        x.rain(9, 1);
-        is("folded", folded(x), x.digest());
-        x.rain(4, 1);
-        is("folded", folded(x), x.digest());
-        long before = x.digest();
-        x.lose(0);
-        is("a FINDING is not in it", before, x.digest());
+        if (steps > 12) {
+            x.cart(9, 4);
+            x.cart(9, 1);
+            x.rain(9, 1);
+        }
+        x.rain(4, steps > 13 ? 1 : 0);
+        return x;
     }
 
     /** A town small enough that all its answers are found by hand. */
@@ -1015,14 +1017,14 @@ public final class PromiseTests {
         x.fall(2, 2, 0, 3);
         x.sweep(1, 5);
         x.cart(2, 3);
-        long h = fold(17, 4, 4, 4, 11, 4, 1, 1, 2, -1, -1);
-        h = fold(h, 9, 4, 0, 14, 0, 1, 0, 0, 0, 2);
-        h = fold(h, 6, 4, 1, 12, 0, 0, 0, 2, 0, 0);
-        h = fold(h, 3, 3, 3, 8, 4, 0, 0, 0, 0, 0);
-        h = fold(h, 0, 0, 7, 0, 0, 0, 0, 0, 0, 0);
-        h = fold(h, 1, 2, 4, 12, 0, 0, 1, 12, 4, 8);
-        h = fold(h, 2, 3, 3, 3, 0, 0, 2, 4, 4, 0);
-        h = fold(h, 11, 0, 8, 2, 4, 1, 2, 13, 33, 4, 1, 0);
+        long h = Probe.fold(17, 4, 4, 4, 11, 4, 1, 1, 2, -1, -1);
+        h = Probe.fold(h, 9, 4, 0, 14, 0, 1, 0, 0, 0, 2);
+        h = Probe.fold(h, 6, 4, 1, 12, 0, 0, 0, 2, 0, 0);
+        h = Probe.fold(h, 3, 3, 3, 8, 4, 0, 0, 0, 0, 0);
+        h = Probe.fold(h, 0, 0, 7, 0, 0, 0, 0, 0, 0, 0);
+        h = Probe.fold(h, 1, 2, 4, 12, 0, 0, 1, 12, 4, 8);
+        h = Probe.fold(h, 2, 3, 3, 3, 0, 0, 2, 4, 4, 0);
+        h = Probe.fold(h, 11, 0, 8, 2, 4, 1, 2, 13, 33, 4, 1, 0);
         is("a town", h, x.digest());
     }
 }

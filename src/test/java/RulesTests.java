@@ -13,7 +13,7 @@ import java.util.TreeSet;
 import java.util.regex.Matcher;
 import java.util.regex.Pattern;
 
-/** The rules of LANGUAGE.md that a program can look at: the face, what stands in classes, and words that may not stand. */
+/** The rules of LANGUAGE.md that a program can look at: the face, what stands in classes, what may not stand. */
 public final class RulesTests {
     private static final String[] FACE = {
         "int type(int, int)", "int wipe(int)", "int fault(int)", "int height(int)", "int street(int, int)",
@@ -25,9 +25,12 @@ public final class RulesTests {
         "int get(int, int, int)", "int copy(int, int, int, int, int)", "int write(int, int)", "int count(int)",
         "long digest()"};
     private static final String[] FORBIDDEN = {
-        "throw", "throws", "try", "catch", "finally", "synchronized", "assert", "import", "package", "native",
-        "transient", "volatile", "hashCode", "toString", "equals", "Object", "Class", "Thread", "Random", "getClass",
-        "float", "double", "var", "record", "yield", "protected"};
+        "throw", "throws", "try", "catch", "finally", "synchronized", "assert", "package", "hashCode", "getClass",
+        "Object", "Thread", "Runtime", "Random"};
+    /** What may be called by the name of a class of the library, and what may be imported. */
+    private static final String LIBRARY = "(Integer|Long|Math)\\.[a-z]\\w*(?<!Exact)|System\\.arraycopy"
+        + "|Arrays\\.(copyOf|copyOfRange|fill)|List\\.of";
+    private static final String IMPORTS = "java\\.util\\.(ArrayList|List|Arrays|Iterator)";
 
     private static int wrong = 0;
 
@@ -101,12 +104,11 @@ public final class RulesTests {
         boolean inner = each != SweptDownhill.class;
         check(!inner || Modifier.isStatic(each.getModifiers()) && !Modifier.isPublic(each.getModifiers()),
             each + " is static and not public");
-        check(each.getDeclaredClasses().length == 0 || !inner, each + " holds no classes");
         int fields = 0;
         for (Field f : each.getDeclaredFields()) {
             boolean fixed = Modifier.isStatic(f.getModifiers());
             fields += fixed ? 0 : 1;
-            check(!fixed || Modifier.isFinal(f.getModifiers()) && f.getType().isPrimitive(), "static " + f);
+            check(!fixed || f.isSynthetic() || Modifier.isFinal(f.getModifiers()) && isConstant(f.getType()), "static " + f);
         }
         check(fields <= 20, each + " has " + fields + " fields");
         Set<String> faceNames = new TreeSet<>();
@@ -114,27 +116,43 @@ public final class RulesTests {
             faceNames.add(method.replaceAll("^\\w+ |\\(.*", ""));
         }
         for (Method m : each.getDeclaredMethods()) {
-            boolean own = inner || Modifier.isPrivate(m.getModifiers());
-            check(!own || !faceNames.contains(m.getName()), m + " bears the name of a public method");
+            check(!Modifier.isPrivate(m.getModifiers()) || !faceNames.contains(m.getName()),
+                m + " bears the name of a public method");
             check(m.getParameterCount() <= 7, m + " has too many parameters");
         }
     }
 
-    /** The source without its comments and signs between quotes. */
+    private static boolean isConstant(Class<?> type) {
+        Class<?> item = type.isArray() ? type.getComponentType() : type;
+        return item.isPrimitive() || !type.isArray() && (type == String.class || type.isEnum());
+    }
+
+    /** The source without its comments and without what stands between quotes. */
     private static String bare(String source) {
-        return source.replaceAll("(?s)/\\*.*?\\*/", " ").replaceAll("//[^\n]*", " ").replaceAll("'[^']'", "0");
+        return source.replaceAll("(?s)/\\*.*?\\*/", " ").replaceAll("//[^\n]*", " ")
+            .replaceAll("'(\\\\.|[^'])'", "0").replaceAll("\"(\\\\.|[^\"\n])*\"", "\"\"");
     }
 
     private static void words(String bare) {
         for (String word : FORBIDDEN) {
             check(!Pattern.compile("\\b" + word + "\\b").matcher(bare).find(), "the word " + word);
         }
-        check(!bare.contains("->") && !bare.contains("::") && !bare.contains("\""), "no lambdas, references, texts");
+        // An arrow behind a case is a switch's, any other one a lambda's.
+        String noCases = bare.replaceAll("\\b(case\\b[^;{}]*?|default\\s*)->", "");
+        check(!noCases.contains("->") && !bare.contains("::"), "no lambdas, no method references");
         check(!Pattern.compile("static\\s*\\{").matcher(bare).find(), "no static block");
-        Matcher calls = Pattern.compile("\\b([A-Z]\\w*)\\.([a-z]\\w*)").matcher(bare);
-        Set<String> library = Set.of("Math.min", "Math.max", "Integer.bitCount", "System.arraycopy");
+        check(!Pattern.compile("\\b(boolean equals|int hashCode|String toString)\\s*\\(").matcher(bare).find(),
+            "no equals, hashCode or toString of its own");
+        Matcher imports = Pattern.compile("\\bimport\\s+([\\w.*]+)").matcher(bare);
+        while (imports.find()) {
+            check(imports.group(1).matches(IMPORTS), imports.group());
+        }
+        Set<String> own = new TreeSet<>();
+        classes().forEach(each -> own.add(each.getSimpleName()));
+        Matcher calls = Pattern.compile("(?<![\\w.])([A-Z]\\w*)\\.([a-z]\\w*)\\s*\\(").matcher(bare);
         while (calls.find()) {
-            check(library.contains(calls.group()), "the library's " + calls.group());
+            String call = calls.group(1) + "." + calls.group(2);
+            check(own.contains(calls.group(1)) || call.matches(LIBRARY), "the library's " + call);
         }
     }
 
@@ -143,7 +161,6 @@ public final class RulesTests {
         int start = -1;
         String indent = "";
         for (int i = 0; i < lines.length; i++) {
-            check(lines[i].length() <= 120 && !lines[i].contains("\t"), "line " + (i + 1));
             if (lines[i].matches("( {4}| {8})(public|private|static|final|int|void|boolean|long|[A-Z]\\w*) ?.*\\) \\{")) {
                 start = i;
                 indent = lines[i].replaceAll("\\S.*", "");
