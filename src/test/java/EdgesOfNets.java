@@ -50,6 +50,7 @@ final class EdgesOfNets extends Edges {
             cut(p, "1 16", diamond(), 0, 4);
             cut(p, "1 8", town("9530", "01;01;01;12;23"), 0, 2);
             cut(p, "1 4", town("950", "01;01;12"), 0, 2);
+            cut(p, "3 7", town("950", "01;01;01;12"), 0, 1);
         });
         edge("======== 2", "CUT: of like ones the least bits", p -> {
             cut(p, "2 3", diamond(), 0, 3);

@@ -11,7 +11,7 @@ final class EdgesOfRefusals extends Edges {
         findings();
         firstThatFits();
         changeNothing();
-        longs();
+        numbers();
     }
 
     private void findings() {
@@ -273,7 +273,19 @@ final class EdgesOfRefusals extends Edges {
         return told.append(' ').append(x.set(3, 0, 59)).append(' ').append(x.wipe(1)).append(x.wipe(0)).toString();
     }
 
-    private void longs() {
+    private void numbers() {
+        edge("Refusals", "NONE is -1, BAD -2, NOT -3, FULL -4, and so they are answered", p -> {
+            SweptDownhill x = new SweptDownhill();
+            p.is(-1, SweptDownhill.NONE);
+            p.is(-1, x.best());
+            p.is(-2, SweptDownhill.BAD);
+            p.is(-2, x.height(0));
+            p.is(-3, SweptDownhill.NOT);
+            p.is(-3, x.undo(0));
+            p.is(-4, SweptDownhill.FULL);
+            type(x, 0, "98765432");
+            p.is(-4, x.type(0, '1'));
+        });
         edge("Refusals", "where the answer is a long, BAD is the least long and 2 more", p -> {
             SweptDownhill x = town("95", "01");
             p.is(LEAST_LONG + 2, x.odds(-1, 0));

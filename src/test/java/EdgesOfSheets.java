@@ -1,3 +1,5 @@
+import java.math.BigInteger;
+
 /** SHEETS, their FORMS and items, count() and digest(), and promises 27 to 34. */
 final class EdgesOfSheets extends Edges {
     EdgesOfSheets() {
@@ -388,15 +390,45 @@ final class EdgesOfSheets extends Edges {
             p.is(h, x.digest());
         });
         edge("34 digest", "of each thing all that is told of it, then of the next one", p -> {
-            SweptDownhill x = town("90", "01");
+            SweptDownhill x = town("90", "01;01");
             x.fall(0, 0, GLASS, 2);
             x.fall(1, 1, LIVING, 3);
             x.set(2, 1, 3);
-            long h = Probe.fold(17, 2, 1, 2, 2, 2, 0, 0, 59, -1, -1);
+            long h = Probe.fold(17, 2, 2, 2, 5, 2, 0, 0, 59, -1, -1);
             h = Probe.fold(h, 9, 4, 0, 2, 0, 1, 0, 0, 0, 2);
             h = Probe.fold(h, 0, 12, 1, 0, 0, 0, 0, 2, 0, 0);
             h = Probe.fold(h, 0, 1, 12, 4, 8);
-            h = Probe.fold(h, 16, -1, 16, -1, 16, 1, 1, 0, 16, 1, 1, 1);
+            h = Probe.fold(h, 0, 1, 12, 4, 8);
+            h = Probe.fold(h, 16, -1, 16, -1, 16, 2, 3, 0, 16, 1, 1, 1);
+            p.is(h, x.digest());
+        });
+        edge("34 digest", "the FAULT of each text, and its bytes, though it is as if it was empty", p -> {
+            long h = Probe.fold(17, 2, 0, 2, 3, 0, 0, 0, 59, -1, 3);
+            h = Probe.fold(h, 9, 0, 0, 0, 0, 0, 0, 0, 0, 0);
+            h = Probe.fold(h, 5, 0, 0, 0, 0, 0, 0, 0, 0, 0);
+            h = Probe.fold(h, 0, -1, 0, -1, 0, 0, 0, 0, 0, 1, 1, 0);
+            p.is(h, town("95", "01;").digest());
+            h = Probe.fold(17, 0, 0, 3, 2, 0, 0, 0, 59, 2, 0);
+            h = Probe.fold(h, 0, -1, 0, -1, 0, -2, -2, 0, 0, 1, -2, -1);
+            p.is(h, town("95x", "01").digest());
+        });
+        edge("34 digest", "who(0, 0, 0): of a barrow of KIND 0 in minute 0", p -> {
+            SweptDownhill x = ladder();
+            x.fall(0, 0, ASH, 5);
+            x.sweep(0, 0);
+            x.set(1, 1, 5);
+            p.is(0, x.who(0, ASH, 0));
+            p.is(1, x.who(1, ASH, 0));
+            p.is(1, x.who(0, GLASS, 0));
+            long h = Probe.fold(17, 4, 3, 4, 8, 1, 1, 0, 59, -1, -1);
+            h = Probe.fold(h, 9, 0, 0, 14, 0, 0, 0, 0, 0, 0);
+            h = Probe.fold(h, 6, 5, 1, 12, 1, 0, 0, 0, 0, 5);
+            h = Probe.fold(h, 3, 0, 3, 8, 0, 0, 0, 0, 0, 0);
+            h = Probe.fold(h, 0, 0, 7, 0, 0, 0, 0, 0, 0, 0);
+            h = Probe.fold(h, 0, 1, 0, 0, 0);
+            h = Probe.fold(h, 1, 2, 5, 5, 0);
+            h = Probe.fold(h, 2, 3, 0, 0, 0);
+            h = Probe.fold(h, 5, -1, 5, -1, 5, 1, 1, 7, 5, 1, 0, 1);
             p.is(h, x.digest());
         });
         edge("34 digest", "least(1, NONE and 0), least(2, NONE), odds(4) above and below", p -> {
@@ -415,6 +447,14 @@ final class EdgesOfSheets extends Edges {
             h = Probe.fold(h, 2, 3, 1, 1, 0);
             h = Probe.fold(h, 6, -1, 5, 2, 3, 1, 1, 7, 9, 2, 1, 0);
             p.is(h, x.digest());
+        });
+        edge("34 digest", "as longs that wrap", p -> {
+            BigInteger h = BigInteger.valueOf(17);
+            for (int told : new int[] {0, 0, 0, 0, 0, 0, 0, 59, -1, -1, 0, -1, 0, -1, 0, -2, -2, 0, 0, 1, -2, -1}) {
+                h = h.multiply(BigInteger.valueOf(31)).add(BigInteger.valueOf(told));
+            }
+            p.is(1, h.bitLength() > 64 ? 1 : 0);
+            p.is(h.longValue(), new SweptDownhill().digest());
         });
         edge("34 digest", "what is a SHEET's, and the latest FINDING, is not in it", p -> {
             SweptDownhill x = town("950", "01;12");

@@ -265,6 +265,20 @@ final class EdgesOfTexts extends Edges {
             p.refused(x, BAD, () -> x.wipe(-1));
             p.refused(x, BAD, () -> x.wipe(2));
         });
+        edge("3 wipe", "behind it the text can be another one, and nothing is left of the first", p -> {
+            SweptDownhill x = town("90", "01");
+            x.fall(0, 0, ASH, 4);
+            x.rain(0, 1);
+            p.heaps("0 4", x, 0);
+            x.wipe(1);
+            p.heaps("4 0", x, 0);
+            x.wipe(0);
+            p.heaps("", x, 0);
+            type(x, 0, "0930");
+            type(x, 1, "12");
+            p.heaps("4 0 0 0", x, 0);
+            p.row("0 4 0 0", 4, door -> x.nets(door, 1));
+        });
         edge("4 fault", "NONE, for a text that is well, and for a FAULT at 0 not", p -> {
             SweptDownhill x = town("98765432", "01;12");
             p.row("-1 -1", 2, x::fault);

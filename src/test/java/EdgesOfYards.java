@@ -265,6 +265,10 @@ final class EdgesOfYards extends Edges {
             SweptDownhill x = ladder();
             x.fall(0, 1, ASH, 1);
             p.row("0 2 0 0", 4, door -> x.origin(door, ASH));
+            x.fall(0, 0, ASH, 1);
+            x.sweep(0, 0);
+            x.fall(1, 1, ASH, 1);
+            p.row("0 3 0 0", 4, door -> x.origin(door, ASH));
         });
         edge("======== 4", "ORIGIN: of what LIES there: nothing, where nothing lies", p -> {
             SweptDownhill x = ladder();
@@ -276,6 +280,10 @@ final class EdgesOfYards extends Edges {
             p.row("0 0 0 0", 4, door -> x.origin(door, ASH));
             x.fall(3, 1, ASH, 1);
             p.row("0 2 0 0", 4, door -> x.origin(door, ASH));
+            SweptDownhill undone = ladder();
+            undone.fall(0, 0, ASH, 1);
+            undone.undo(0);
+            p.row("0 0 0 0", 4, door -> undone.origin(door, ASH));
         });
         edge("======== 4", "ORIGIN: of a KIND alone", p -> {
             SweptDownhill x = ladder();
